@@ -3,9 +3,10 @@ public final class LuckyTickets {
     public static final int NONE = -1, UNKNOWN = -1000000001, OUTSIDE = -1000000002, NOT = -1000000003, FULL = -1000000004;
 
     private static final int MAX_LETTERS = 240, MAX_RULES = 4, MAX_ROLLS = 4, MAX_RIDERS = 5;
-    private static final int MAX_LEFT = 200, MAX_AT_ONCE = 60, MAX_COUNTED = 9999, LAST_FULL_DAY = 9000;
+    private static final int MAX_LEFT = 200, MAX_AT_ONCE = 60, MAX_COUNTED = 9999, MAX_DAYS_AHEAD = 9000;
     private static final int MAX_SEEN = 8, MAX_BOOK = 15, MAX_UNDONE = 16, IMAGES = 2;
     private static final int ALL = 0, ANY = 1;
+    /** So many words of 64 bits hold the 10000 numbers of four figures. */
     private static final int WORDS = 157;
     private static final int BILLION = 1000000000;
 
@@ -216,7 +217,7 @@ public final class LuckyTickets {
         if (now.figures == 0) {
             return NOT;
         }
-        if (now.days > LAST_FULL_DAY) {
+        if (now.days > MAX_DAYS_AHEAD) {
             return FULL;
         }
         past.remember(now);

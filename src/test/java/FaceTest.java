@@ -25,6 +25,7 @@ public final class FaceTest {
         Check check = new Check();
         methods(check);
         constants(check);
+        classesInside(check);
         words(check);
         roomOfCalls(check);
         check.end();
@@ -68,6 +69,24 @@ public final class FaceTest {
             check.holds(f + " is public or private", isPublic || Modifier.isPrivate(f.getModifiers()));
         }
         check.due("public fields", shown, 5);
+    }
+
+    private static void classesInside(Check check) {
+        check.part("classes inside");
+        for (Class<?> inside : LuckyTickets.class.getDeclaredClasses()) {
+            check.holds(inside + " is static", Modifier.isStatic(inside.getModifiers()));
+            int fields = 0;
+            for (Field f : inside.getDeclaredFields()) {
+                boolean isStatic = Modifier.isStatic(f.getModifiers());
+                fields += isStatic ? 0 : 1;
+                check.holds(f + " is final, if static", !isStatic || Modifier.isFinal(f.getModifiers()));
+            }
+            check.holds(inside + " has twenty fields at most", fields <= 20);
+            for (Method m : inside.getDeclaredMethods()) {
+                check.holds(m + " has no name of the face", METHODS.stream().noneMatch(f -> f.startsWith(m.getName() + "(")));
+                check.holds(m + " takes seven at most", m.getParameterCount() <= 7);
+            }
+        }
     }
 
     private static void words(Check check) throws Exception {

@@ -288,5 +288,19 @@ public final class TextTest {
         check.due("images are gone", x.goBack(1), Check.NOT);
         check.due("nothing can be undone", x.undo(), Check.NOT);
         check.due("the seed stays", x.seed(0), seed);
+        sameRuleOtherFigures();
+    }
+
+    private static void sameRuleOtherFigures() {
+        check.part("promise 3, the same rules with other figures");
+        LuckyTickets x = new LuckyTickets();
+        String[] texts = {"d2;r3 2 0;", "d4;r3 2 0;", "d3;r3 2 0;", "d3;m1;r3 2 0;r4 0 0;", "d3;r4 0 0;", "d3;m1;r4 0 0;r3 2 0;",
+            "d2;m1;r4 0 0;r3 2 0;", "", "d2;m1;r4 0 0;r3 2 0;", "d3;", "d3;m1;r4 0 0;r3 2 0;"};
+        int[] want = {50, 5000, 500, 625, 220, 625, 80, 0, 80, 0, 625};
+        for (int i = 0; i < texts.length; i++) {
+            Check.feed(x, texts[i]);
+            x.tram();
+            check.due("lucky ones of " + texts[i], x.told(7), want[i]);
+        }
     }
 }
