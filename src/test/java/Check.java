@@ -26,6 +26,37 @@ final class Check {
         }
     }
 
+    int looked() {
+        return looked;
+    }
+
+    /** A text that has no fault, with so many riders. */
+    void good(String text, int riders) {
+        LuckyTickets x = new LuckyTickets();
+        feed(x, text);
+        due("tram of " + text, x.tram(), riders);
+        due("fault of " + text, x.fault(), NONE);
+        due("letters left of " + text, x.told(5), 0);
+    }
+
+    /** A text, the first fault of which is that one, at that letter. */
+    void bad(String text, int kind, int place) {
+        LuckyTickets x = new LuckyTickets();
+        feed(x, text);
+        due("tram of " + text, x.tram(), -10 - kind);
+        due("fault of " + text, x.fault(), place);
+        due("letters left of " + text, x.told(5), 0);
+        due("figures of " + text, x.told(0), 0);
+    }
+
+    /** What is counted of a rider. */
+    void riderIs(LuckyTickets x, int p, int kept, int luckyKept, int eaten, int torn) {
+        int[] want = {kept, luckyKept, eaten, torn};
+        for (int what = 1; what <= 4; what++) {
+            due("rider(" + p + ", " + what + ")", x.rider(p, what), want[what - 1]);
+        }
+    }
+
     void end() {
         System.out.println(looked + " answers looked at, " + wrong + " of them wrong");
         if (wrong != 0) {

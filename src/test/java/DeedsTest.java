@@ -23,13 +23,6 @@ public final class DeedsTest {
         check.end();
     }
 
-    private static void riderIs(LuckyTickets x, int p, int kept, int luckyKept, int eaten, int torn) {
-        int[] want = {kept, luckyKept, eaten, torn};
-        for (int what = 1; what <= 4; what++) {
-            check.due("rider(" + p + ", " + what + ")", x.rider(p, what), want[what - 1]);
-        }
-    }
-
     private static void selling() {
         check.part("promise 10, sell by kinds");
         LuckyTickets x = Check.of("d2;r3 2 0;n98 20;p0;p1;p2;p3;");
@@ -39,26 +32,26 @@ public final class DeedsTest {
         }
         check.due("left", x.rollOf(0, 1), 12);
         check.due("next", x.rollOf(0, 0), 6);
-        riderIs(x, 0, 3, 1, 0, 0);
-        riderIs(x, 1, 1, 0, 1, 0);
-        riderIs(x, 2, 1, 0, 0, 1);
-        riderIs(x, 3, 1, 1, 0, 0);
+        check.riderIs(x, 0, 3, 1, 0, 0);
+        check.riderIs(x, 1, 1, 0, 1, 0);
+        check.riderIs(x, 2, 1, 0, 0, 1);
+        check.riderIs(x, 3, 1, 1, 0, 0);
     }
 
     private static void passing() {
         check.part("promise 10, passers");
         LuckyTickets x = Check.of("d2;r3 2 0;n1 20;p3;p3;p1;");
         x.sell(0, 0);
-        riderIs(x, 0, 0, 0, 0, 0);
-        riderIs(x, 1, 1, 0, 0, 0);
+        check.riderIs(x, 0, 0, 0, 0, 0);
+        check.riderIs(x, 1, 1, 0, 0, 0);
         x.roll(0, 1, 20);
         x.sell(0, 1);
-        riderIs(x, 2, 1, 0, 0, 0);
+        check.riderIs(x, 2, 1, 0, 0, 0);
         LuckyTickets alone = Check.of("d2;r3 2 0;n1 20;p3;");
         alone.sell(0, 0);
-        riderIs(alone, 0, 1, 0, 0, 0);
+        check.riderIs(alone, 0, 1, 0, 0, 0);
         alone.sell(0, 0);
-        riderIs(alone, 0, 2, 1, 0, 0);
+        check.riderIs(alone, 0, 2, 1, 0, 0);
     }
 
     private static void sellingRefused() {
@@ -81,15 +74,15 @@ public final class DeedsTest {
         LuckyTickets x = Check.of("d2;r3 3 0;n97 100;p0;p1;p2;p3;p0;");
         check.due("line(0, 13)", x.line(0, 13), 5);
         // 97 98 99* 0* 1 | 2 3* 4 5 6* | 7 8 9*: 99 to rider 2, 0 to 3, 3 to 1, 6 to 4, 9 to 2
-        riderIs(x, 0, 3, 0, 0, 0);
-        riderIs(x, 1, 2, 0, 1, 0);
-        riderIs(x, 2, 1, 0, 0, 2);
-        riderIs(x, 3, 1, 1, 0, 0);
-        riderIs(x, 4, 3, 1, 0, 0);
+        check.riderIs(x, 0, 3, 0, 0, 0);
+        check.riderIs(x, 1, 2, 0, 1, 0);
+        check.riderIs(x, 2, 1, 0, 0, 2);
+        check.riderIs(x, 3, 1, 1, 0, 0);
+        check.riderIs(x, 4, 3, 1, 0, 0);
         check.due("left", x.rollOf(0, 1), 87);
         check.due("next", x.rollOf(0, 0), 10);
         check.due("each line starts with rider 0", x.line(0, 1), 0);
-        riderIs(x, 0, 4, 0, 0, 0);
+        check.riderIs(x, 0, 4, 0, 0, 0);
         check.due("one call, one to undo", x.told(14), 2);
     }
 
@@ -124,14 +117,14 @@ public final class DeedsTest {
         check.due("no such rider", x.give(-1, 0), Check.UNKNOWN);
         check.due("UNKNOWN comes ahead of NOT", x.give(1, 1), Check.UNKNOWN);
         check.due("to an eater", x.give(0, 1), 1);
-        riderIs(x, 0, 2, 1, 0, 0);
-        riderIs(x, 1, 1, 1, 0, 0);
+        check.riderIs(x, 0, 2, 1, 0, 0);
+        check.riderIs(x, 1, 1, 1, 0, 0);
         check.due("again", x.give(0, 1), 2);
-        riderIs(x, 0, 1, 0, 0, 0);
-        riderIs(x, 1, 2, 2, 0, 0);
+        check.riderIs(x, 0, 1, 0, 0, 0);
+        check.riderIs(x, 1, 2, 2, 0, 0);
         check.due("no lucky one left", x.give(0, 1), Check.NOT);
         check.due("to a wary one", x.give(1, 2), 1);
-        riderIs(x, 2, 1, 1, 0, 0);
+        check.riderIs(x, 2, 1, 1, 0, 0);
         check.due("what was done", x.told(14), 6);
         x.mode(1);
         x.rule(0, 2, 0, 0);
@@ -166,8 +159,8 @@ public final class DeedsTest {
         }
         check.due("both are full", x.rider(1, 2), 9999);
         check.due("give to one who is full", x.give(0, 1), 9999);
-        riderIs(x, 0, 9998, 9998, 0, 0);
-        riderIs(x, 1, 9999, 9999, 0, 0);
+        check.riderIs(x, 0, 9998, 9998, 0, 0);
+        check.riderIs(x, 1, 9999, 9999, 0, 0);
     }
 
     /** 180 in four calls: few enough that an object's 512 calls are not used up. */
@@ -282,7 +275,7 @@ public final class DeedsTest {
                 check.due("left of roll " + r, x.rollOf(r, 1), y.rollOf(r, 1));
             }
             for (int p = 0; p < 4; p++) {
-                riderIs(x, p, y.rider(p, 1), y.rider(p, 2), y.rider(p, 3), y.rider(p, 4));
+                check.riderIs(x, p, y.rider(p, 1), y.rider(p, 2), y.rider(p, 3), y.rider(p, 4));
             }
         }
     }

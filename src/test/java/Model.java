@@ -169,7 +169,8 @@ final class Model {
     }
 
     private static String spell(int n, int figures) {
-        return String.format("%0" + figures + "d", n);
+        String plain = Integer.toString(n);
+        return "0".repeat(figures - plain.length()) + plain;
     }
 
     static boolean yes(int[] rule, int n, int figures) {

@@ -51,35 +51,18 @@ public final class TextTest {
         check.due("feed", x.feed(32), 1);
     }
 
-    private static void good(String text, int riders) {
-        LuckyTickets x = new LuckyTickets();
-        Check.feed(x, text);
-        check.due("tram of " + text, x.tram(), riders);
-        check.due("fault of " + text, x.fault(), Check.NONE);
-        check.due("letters left of " + text, x.told(5), 0);
-    }
-
-    private static void bad(String text, int kind, int place) {
-        LuckyTickets x = new LuckyTickets();
-        Check.feed(x, text);
-        check.due("tram of " + text, x.tram(), -10 - kind);
-        check.due("fault of " + text, x.fault(), place);
-        check.due("letters left of " + text, x.told(5), 0);
-        check.due("figures of " + text, x.told(0), 0);
-    }
-
     private static void goodTexts() {
         check.part("promise 3, texts without a fault");
-        good("d2;", 0);
-        good("d0004;", 0);
-        good("  d  2  ;  ", 0);
-        good("d2;p0;p1;p2;p3;p0003;", 5);
-        good("d2;m1;", 0);
-        good("d2;p3;m0;n99 200;r4 3 0;n0 0;p0;", 2);
-        good("d4;n9999 0200;", 0);
-        good("d3;r0 36 0;r1 2 0;r2 9 4;r3 12 11;", 0);
-        good("d3;r0 0 0;r2 0 0;r3 2 0;r4 0 0;", 0);
-        good("d2;" + " ".repeat(237), 0);
+        check.good("d2;", 0);
+        check.good("d0004;", 0);
+        check.good("  d  2  ;  ", 0);
+        check.good("d2;p0;p1;p2;p3;p0003;", 5);
+        check.good("d2;m1;", 0);
+        check.good("d2;p3;m0;n99 200;r4 3 0;n0 0;p0;", 2);
+        check.good("d4;n9999 0200;", 0);
+        check.good("d3;r0 36 0;r1 2 0;r2 9 4;r3 12 11;", 0);
+        check.good("d3;r0 0 0;r2 0 0;r3 2 0;r4 0 0;", 0);
+        check.good("d2;" + " ".repeat(237), 0);
         LuckyTickets x = Check.of(" d 3 ; p 2 ; r 2 7 3 ; m 1 ; n 12 34 ; p 1 ; n 998 5 ; r 3 5 4 ; ");
         int[] want = {3, 1, 2, 2, 2, 0, 0};
         for (int what = 0; what < want.length; what++) {
@@ -124,80 +107,80 @@ public final class TextTest {
 
     private static void cannotStand() {
         check.part("fault 1");
-        bad("p0;", 1, 0);
-        bad("m0;", 1, 0);
-        bad("r0 0 0;", 1, 0);
-        bad("n0 0;", 1, 0);
-        bad("  n0 0;", 1, 2);
-        bad(";", 1, 0);
-        bad("7", 1, 0);
-        bad("x", 1, 0);
-        bad("\u0000", 1, 0);
-        bad("\t", 1, 0);
-        bad("D2;", 1, 0);
-        bad("d", 1, 1);
-        bad("d  ", 1, 3);
-        bad("d;", 1, 1);
-        bad("d2", 1, 2);
-        bad("d2  ", 1, 4);
-        bad("d2 3;", 1, 3);
-        bad("d2 33333;", 1, 3);
-        bad("d2;;", 1, 3);
-        bad("d2;q1;", 1, 3);
-        bad("d2;5", 1, 3);
-        bad("d2;\u00ff", 1, 3);
-        bad("d2;m", 1, 4);
-        bad("d2;m-1;", 1, 4);
-        bad("d2;m0 m", 1, 6);
-        bad("d2;r0;", 1, 5);
-        bad("d2;r0 0;", 1, 7);
-        bad("d2;r0 0 0 0;", 1, 10);
-        bad("d2;r0 37;", 1, 8);
-        bad("d2;r0 37", 1, 8);
-        bad("d2;r0 37 x", 1, 9);
-        bad("d2;n5;", 1, 5);
-        bad("d2;n5 5 5;", 1, 8);
-        bad("d2;p0p0;", 1, 5);
-        bad("d2;dp", 3, 3);
-        bad("d2p0;", 1, 2);
-        bad("d2d", 1, 2);
+        check.bad("p0;", 1, 0);
+        check.bad("m0;", 1, 0);
+        check.bad("r0 0 0;", 1, 0);
+        check.bad("n0 0;", 1, 0);
+        check.bad("  n0 0;", 1, 2);
+        check.bad(";", 1, 0);
+        check.bad("7", 1, 0);
+        check.bad("x", 1, 0);
+        check.bad("\u0000", 1, 0);
+        check.bad("\t", 1, 0);
+        check.bad("D2;", 1, 0);
+        check.bad("d", 1, 1);
+        check.bad("d  ", 1, 3);
+        check.bad("d;", 1, 1);
+        check.bad("d2", 1, 2);
+        check.bad("d2  ", 1, 4);
+        check.bad("d2 3;", 1, 3);
+        check.bad("d2 33333;", 1, 3);
+        check.bad("d2;;", 1, 3);
+        check.bad("d2;q1;", 1, 3);
+        check.bad("d2;5", 1, 3);
+        check.bad("d2;\u00ff", 1, 3);
+        check.bad("d2;m", 1, 4);
+        check.bad("d2;m-1;", 1, 4);
+        check.bad("d2;m0 m", 1, 6);
+        check.bad("d2;r0;", 1, 5);
+        check.bad("d2;r0 0;", 1, 7);
+        check.bad("d2;r0 0 0 0;", 1, 10);
+        check.bad("d2;r0 37;", 1, 8);
+        check.bad("d2;r0 37", 1, 8);
+        check.bad("d2;r0 37 x", 1, 9);
+        check.bad("d2;n5;", 1, 5);
+        check.bad("d2;n5 5 5;", 1, 8);
+        check.bad("d2;p0p0;", 1, 5);
+        check.bad("d2;dp", 3, 3);
+        check.bad("d2p0;", 1, 2);
+        check.bad("d2d", 1, 2);
     }
 
     private static void outOfBounds() {
         check.part("fault 2");
-        bad("d1;", 2, 1);
-        bad("d5;", 2, 1);
-        bad("d0", 2, 1);
-        bad("d  12345", 2, 3);
-        bad("d00002;", 2, 1);
-        bad("d9x", 2, 1);
-        bad("d2;m2;", 2, 4);
-        bad("d2;m00000;", 2, 4);
-        bad("d2;r5 0 0;", 2, 4);
-        bad("d2;r0 100 0;", 2, 6);
-        bad("d2;r0 0 100;", 2, 8);
-        bad("d2;r0 37 100;", 2, 9);
-        bad("d2;r0 37 00000;", 2, 9);
-        bad("d2;r0 370;", 2, 6);
-        bad("d2;n100 0;", 2, 4);
-        bad("d3;n1000 0;", 2, 4);
-        bad("d4;n10000 0;", 2, 4);
-        bad("d2;n0 201;", 2, 6);
-        bad("d2;n0 201", 2, 6);
-        bad("d2;p4;", 2, 4);
-        bad("d2;p 99999999999999999999;", 2, 5);
+        check.bad("d1;", 2, 1);
+        check.bad("d5;", 2, 1);
+        check.bad("d0", 2, 1);
+        check.bad("d  12345", 2, 3);
+        check.bad("d00002;", 2, 1);
+        check.bad("d9x", 2, 1);
+        check.bad("d2;m2;", 2, 4);
+        check.bad("d2;m00000;", 2, 4);
+        check.bad("d2;r5 0 0;", 2, 4);
+        check.bad("d2;r0 100 0;", 2, 6);
+        check.bad("d2;r0 0 100;", 2, 8);
+        check.bad("d2;r0 37 100;", 2, 9);
+        check.bad("d2;r0 37 00000;", 2, 9);
+        check.bad("d2;r0 370;", 2, 6);
+        check.bad("d2;n100 0;", 2, 4);
+        check.bad("d3;n1000 0;", 2, 4);
+        check.bad("d4;n10000 0;", 2, 4);
+        check.bad("d2;n0 201;", 2, 6);
+        check.bad("d2;n0 201", 2, 6);
+        check.bad("d2;p4;", 2, 4);
+        check.bad("d2;p 99999999999999999999;", 2, 5);
     }
 
     private static void tooMany() {
         check.part("fault 3");
-        bad("d2;d", 3, 3);
-        bad("d2;d2;", 3, 3);
-        bad("d2;m0;m", 3, 6);
-        bad("d2;m0;p0;m1;", 3, 9);
-        bad("d2;r0 0 0;r0 0 0;r0 0 0;r0 0 0;r", 3, 31);
-        bad("d2;n0 0;n0 0;n0 0;n0 0; n9", 3, 24);
-        bad("d2;p0;p0;p0;p0;p0;p9;", 3, 18);
-        good("d2;r0 0 0;r0 0 0;r0 0 0;r0 0 0;n0 0;n0 0;n0 0;n0 0;p0;p0;p0;p0;p0;m1;", 5);
+        check.bad("d2;d", 3, 3);
+        check.bad("d2;d2;", 3, 3);
+        check.bad("d2;m0;m", 3, 6);
+        check.bad("d2;m0;p0;m1;", 3, 9);
+        check.bad("d2;r0 0 0;r0 0 0;r0 0 0;r0 0 0;r", 3, 31);
+        check.bad("d2;n0 0;n0 0;n0 0;n0 0; n9", 3, 24);
+        check.bad("d2;p0;p0;p0;p0;p0;p9;", 3, 18);
+        check.good("d2;r0 0 0;r0 0 0;r0 0 0;r0 0 0;n0 0;n0 0;n0 0;n0 0;p0;p0;p0;p0;p0;m1;", 5);
     }
 
     private static void noneOfKind() {
@@ -205,22 +188,22 @@ public final class TextTest {
         String[] none = {"0 37 0", "0 99 0", "0 0 1", "1 3 0", "1 0 1", "2 10 0", "2 0 5", "3 0 0", "3 1 0", "3 13 0",
             "3 2 2", "3 12 12", "4 4 0", "4 0 1"};
         for (String rule : none) {
-            bad("d2;r" + rule + ";", 4, 6);
-            bad("d4;p0; r  " + rule + ";", 4, 12);
+            check.bad("d2;r" + rule + ";", 4, 6);
+            check.bad("d4;p0; r  " + rule + ";", 4, 12);
         }
-        bad("d2;r0 37 0", 4, 6);
-        bad("d2;r0 37 0x", 4, 6);
-        bad("d2;r0 37 0 0;", 4, 6);
-        bad("d2;r0 0037 0;", 4, 6);
+        check.bad("d2;r0 37 0", 4, 6);
+        check.bad("d2;r0 37 0x", 4, 6);
+        check.bad("d2;r0 37 0 0;", 4, 6);
+        check.bad("d2;r0 0037 0;", 4, 6);
     }
 
     private static void firstFault() {
         check.part("the first fault");
-        bad("d2;p9;x", 2, 4);
-        bad("d2;x;p9;", 1, 3);
-        bad("d2;r0 37 0;p9;", 4, 6);
-        bad("d2;r9 37 0;", 2, 4);
-        bad("d2;m0;m5;", 3, 6);
+        check.bad("d2;p9;x", 2, 4);
+        check.bad("d2;x;p9;", 1, 3);
+        check.bad("d2;r0 37 0;p9;", 4, 6);
+        check.bad("d2;r9 37 0;", 2, 4);
+        check.bad("d2;m0;m5;", 3, 6);
         LuckyTickets x = new LuckyTickets();
         Check.feed(x, "d2;p9;");
         x.tram();
