@@ -1,7 +1,5 @@
 /** The boundary cases of promises 18 to 30: what is tried, seen, written, drawn from and kept. */
 final class BoundsOfAsking {
-    private static final int[] LASTS = {0, 0, 99, 999, 9999};
-
     private final Sentences s;
     private final Check check;
 
@@ -26,35 +24,28 @@ final class BoundsOfAsking {
         goBack();
     }
 
-    /** It had a TRAM, which an empty text took away. */
-    private static LuckyTickets gone() {
-        LuckyTickets x = Check.of("d4;r0 36 0;n0 9;p0;p0;");
-        x.tram();
-        return x;
-    }
-
     private void next() {
         s.about("Promise 18", "NEXT (n 0 .. LAST); NONE.");
         for (int d = 2; d <= 4; d++) {
             LuckyTickets x = Check.of("d" + d + ";r0 36 0;");
             check.due("-1", x.next(-1), Check.OUTSIDE);
             check.due("0", x.next(0), 0);
-            check.due("LAST", x.next(LASTS[d]), LASTS[d]);
-            check.due("behind LAST", x.next(LASTS[d] + 1), Check.OUTSIDE);
+            check.due("LAST", x.next(Check.LASTS[d]), Check.LASTS[d]);
+            check.due("behind LAST", x.next(Check.LASTS[d] + 1), Check.OUTSIDE);
             check.due("none is LUCKY", Check.of("d" + d + ";").next(0), Check.NONE);
-            check.due("none is LUCKY, LAST", Check.of("d" + d + ";").next(LASTS[d]), Check.NONE);
+            check.due("none is LUCKY, LAST", Check.of("d" + d + ";").next(Check.LASTS[d]), Check.NONE);
         }
 
         s.about("Promise 18", "OUTSIDE (without a TRAM, too).");
         check.due("a new object", new LuckyTickets().next(0), Check.OUTSIDE);
-        check.due("a TRAM that is gone", gone().next(0), Check.OUTSIDE);
+        check.due("a TRAM that is gone", Check.gone().next(0), Check.OUTSIDE);
     }
 
     private void upTo() {
         s.about("Promise 19", "UP TO (a, b 0 .. LAST; 0, if b is less).");
         for (int d = 2; d <= 4; d++) {
             LuckyTickets x = Check.of("d" + d + ";r0 36 0;");
-            int last = LASTS[d];
+            int last = Check.LASTS[d];
             check.due("0 to LAST", x.upTo(0, last), last + 1);
             check.due("a -1", x.upTo(-1, last), Check.OUTSIDE);
             check.due("a behind LAST", x.upTo(last + 1, last), Check.OUTSIDE);
@@ -69,7 +60,7 @@ final class BoundsOfAsking {
         s.about("Promise 19", "OUTSIDE (without a TRAM, too).");
         check.due("a new object", new LuckyTickets().upTo(0, 0), Check.OUTSIDE);
         check.due("a new object, b is less", new LuckyTickets().upTo(1, 0), Check.OUTSIDE);
-        check.due("a TRAM that is gone", gone().upTo(0, 0), Check.OUTSIDE);
+        check.due("a TRAM that is gone", Check.gone().upTo(0, 0), Check.OUTSIDE);
     }
 
     private void kth() {
@@ -81,7 +72,7 @@ final class BoundsOfAsking {
         check.due("the greatest", x.kth(Integer.MAX_VALUE), Check.NONE);
         check.due("0 of none", Check.of("d2;").kth(0), Check.NONE);
         check.due("0 without a TRAM", new LuckyTickets().kth(0), Check.NONE);
-        check.due("0 of a TRAM that is gone", gone().kth(0), Check.NONE);
+        check.due("0 of a TRAM that is gone", Check.gone().kth(0), Check.NONE);
 
         s.about("Promise 20", "OUTSIDE: below 0.");
         check.due("-1", x.kth(-1), Check.OUTSIDE);
@@ -99,7 +90,7 @@ final class BoundsOfAsking {
             check.due("one is LUCKY", Check.of("d2;r2 3 2;").waits(what), Check.NONE);
             check.due("none is LUCKY", Check.of("d2;").waits(what), Check.NONE);
             check.due("without a TRAM", new LuckyTickets().waits(what), Check.NONE);
-            check.due("a TRAM that is gone", gone().waits(what), Check.NONE);
+            check.due("a TRAM that is gone", Check.gone().waits(what), Check.NONE);
         }
 
         s.about("Promise 21", "OUTSIDE.");
@@ -136,14 +127,14 @@ final class BoundsOfAsking {
             LuckyTickets x = Check.of("d" + d + ";");
             check.due("-1", x.see(-1, true), Check.OUTSIDE);
             check.due("0", x.see(0, true), 1);
-            check.due("LAST", x.see(LASTS[d], true), 2);
-            check.due("behind LAST", x.see(LASTS[d] + 1, true), Check.OUTSIDE);
+            check.due("LAST", x.see(Check.LASTS[d], true), 2);
+            check.due("behind LAST", x.see(Check.LASTS[d] + 1, true), Check.OUTSIDE);
             check.due("two are SEEN", x.told(10), 2);
         }
 
         s.about("Promise 23", "OUTSIDE (without a TRAM, too), FULL (8).");
         check.due("a new object", new LuckyTickets().see(0, true), Check.OUTSIDE);
-        check.due("a TRAM that is gone", gone().see(0, false), Check.OUTSIDE);
+        check.due("a TRAM that is gone", Check.gone().see(0, false), Check.OUTSIDE);
         LuckyTickets x = Check.of("d2;");
         for (int i = 1; i <= 8; i++) {
             check.due("see", x.see(0, true), i);
@@ -171,7 +162,7 @@ final class BoundsOfAsking {
             check.due("the greatest", x.could(Integer.MAX_VALUE, what), Check.NONE);
             check.due("the least", x.could(Integer.MIN_VALUE, what), Check.NONE);
             check.due("without a TRAM", new LuckyTickets().could(0, what), Check.NONE);
-            check.due("a TRAM that is gone", gone().could(0, what), Check.NONE);
+            check.due("a TRAM that is gone", Check.gone().could(0, what), Check.NONE);
         }
 
         s.about("Promise 24", "OUTSIDE (what).");
@@ -188,15 +179,15 @@ final class BoundsOfAsking {
             LuckyTickets x = Check.of("d" + d + ";");
             check.due("-1", x.write(-1, true), Check.OUTSIDE);
             check.due("0", x.write(0, false), 1);
-            check.due("LAST", x.write(LASTS[d], true), 2);
-            check.due("behind LAST", x.write(LASTS[d] + 1, true), Check.OUTSIDE);
+            check.due("LAST", x.write(Check.LASTS[d], true), 2);
+            check.due("behind LAST", x.write(Check.LASTS[d] + 1, true), Check.OUTSIDE);
             check.due("two entries", x.told(13), 2);
             check.due("LAST is the one behind", x.judge(), 1);
         }
 
         s.about("Promise 25", "OUTSIDE (without a TRAM, too), FULL (15).");
         check.due("a new object", new LuckyTickets().write(0, true), Check.OUTSIDE);
-        check.due("a TRAM that is gone", gone().write(0, false), Check.OUTSIDE);
+        check.due("a TRAM that is gone", Check.gone().write(0, false), Check.OUTSIDE);
         LuckyTickets x = Check.of("d2;");
         for (int i = 1; i <= 15; i++) {
             check.due("write", x.write(0, false), i);
@@ -230,7 +221,7 @@ final class BoundsOfAsking {
         check.due("no entries", x.told(13), 0);
         check.due("again", x.tear(), 0);
         check.due("without a TRAM", new LuckyTickets().tear(), 0);
-        check.due("a TRAM that is gone", gone().tear(), 0);
+        check.due("a TRAM that is gone", Check.gone().tear(), 0);
     }
 
     private void judge() {

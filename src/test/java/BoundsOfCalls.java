@@ -135,7 +135,7 @@ final class BoundsOfCalls {
     private void lucky() {
         s.about("Promise 9", "Of a number (0 .. LAST): what = 0 whether it is LUCKY (1, 0), 1 RULES that say YES (a SET).");
         for (int d = 2; d <= 4; d++) {
-            int last = (int) Math.pow(10, d) - 1;
+            int last = Check.LASTS[d];
             LuckyTickets x = Check.of("d" + d + ";r3 2 0;r3 3 0;r0 36 0;r2 9 " + d + ";");
             check.due("0", x.lucky(0, 0), 0);
             check.due("0, SET", x.lucky(0, 1), 7);
@@ -154,15 +154,8 @@ final class BoundsOfCalls {
         check.due("what 2", x.lucky(0, 2), Check.OUTSIDE);
         for (int what = 0; what <= 1; what++) {
             check.due("without a TRAM", new LuckyTickets().lucky(0, what), Check.OUTSIDE);
-            check.due("a TRAM that is gone", gone().lucky(0, what), Check.OUTSIDE);
+            check.due("a TRAM that is gone", Check.gone().lucky(0, what), Check.OUTSIDE);
         }
-    }
-
-    /** It had a TRAM, which an empty text took away. */
-    private static LuckyTickets gone() {
-        LuckyTickets x = Check.of("d4;r0 36 0;n0 9;p0;p0;");
-        x.tram();
-        return x;
     }
 
     private void sell() {
@@ -278,13 +271,13 @@ final class BoundsOfCalls {
         check.due("no TRAM, 0", new LuckyTickets().mode(0), Check.NOT);
         check.due("no TRAM, 1", new LuckyTickets().mode(1), Check.NOT);
         check.due("no TRAM, 2", new LuckyTickets().mode(2), Check.OUTSIDE);
-        check.due("a TRAM that is gone", gone().mode(1), Check.NOT);
+        check.due("a TRAM that is gone", Check.gone().mode(1), Check.NOT);
     }
 
     private void roll() {
         s.about("Promise 15", "A ROLL is put in anew (n 0 .. LAST, c 0 .. 200): how many were left.");
         for (int d = 2; d <= 4; d++) {
-            int last = (int) Math.pow(10, d) - 1;
+            int last = Check.LASTS[d];
             LuckyTickets x = Check.of("d" + d + ";n5 200;");
             check.due("n -1", x.roll(0, -1, 5), Check.OUTSIDE);
             check.due("n behind LAST", x.roll(0, last + 1, 5), Check.OUTSIDE);
@@ -321,7 +314,7 @@ final class BoundsOfCalls {
         check.due("no TRAM", new LuckyTickets().drift(1), Check.NOT);
         check.due("no TRAM, 0", new LuckyTickets().drift(0), Check.OUTSIDE);
         check.due("no TRAM, 61", new LuckyTickets().drift(61), Check.OUTSIDE);
-        check.due("a TRAM that is gone", gone().drift(1), Check.NOT);
+        check.due("a TRAM that is gone", Check.gone().drift(1), Check.NOT);
         LuckyTickets y = Check.of("d2;");
         for (int i = 1; i <= 150; i++) {
             check.due("drift(60)", y.drift(60), 60 * i);

@@ -1,7 +1,6 @@
 /** The boundary cases of section 2: what the rules say, and who keeps what was sold. */
 final class BoundsOfRules {
     private static final String HERE = "Section 2";
-    private static final int[] LASTS = {0, 0, 99, 999, 9999};
 
     private final Sentences s;
     private final Check check;
@@ -195,9 +194,9 @@ final class BoundsOfRules {
     private void sold() {
         s.about(HERE, "SOLD from a ROLL to a RIDER: the next TICKET (behind LAST comes 0)");
         for (int d = 2; d <= 4; d++) {
-            LuckyTickets x = Check.of("d" + d + ";n" + (LASTS[d] - 1) + " 3;p0;");
-            check.due("ahead of LAST", x.sell(0, 0), LASTS[d] - 1);
-            check.due("LAST", x.sell(0, 0), LASTS[d]);
+            LuckyTickets x = Check.of("d" + d + ";n" + (Check.LASTS[d] - 1) + " 3;p0;");
+            check.due("ahead of LAST", x.sell(0, 0), Check.LASTS[d] - 1);
+            check.due("LAST", x.sell(0, 0), Check.LASTS[d]);
             check.due("the next one", x.rollOf(0, 0), 0);
             check.due("behind LAST", x.sell(0, 0), 0);
             check.due("the next one", x.rollOf(0, 0), 1);

@@ -1,7 +1,6 @@
 /** The boundary cases of section 1 and of promises 1 to 4: THE TEXT, its faults and the tram told in it. */
 final class BoundsOfText {
     private static final String HERE = "Section 1";
-    private static final int[] LASTS = {0, 0, 99, 999, 9999};
 
     private final Sentences s;
     private final Check check;
@@ -43,24 +42,24 @@ final class BoundsOfText {
             Check.feed(one, "d" + d + ";r3 10 4;");
             one.tram();
             check.due("FIGURES", one.told(0), d);
-            check.due("the same RULE for D " + d, one.told(7), (LASTS[d] + 1) / 10);
+            check.due("the same RULE for D " + d, one.told(7), (Check.LASTS[d] + 1) / 10);
         }
 
         s.about(HERE, "0 ahead as they need");
         for (int d = 2; d <= 4; d++) {
             check.due("0 has D of them", Check.of("d" + d + ";r2 0 " + d + ";").lucky(0, 0), 1);
             check.due("7 has one less", Check.of("d" + d + ";r2 0 " + (d - 1) + ";").lucky(7, 0), 1);
-            check.due("LAST has none", Check.of("d" + d + ";r2 0 0;").lucky(LASTS[d], 0), 1);
+            check.due("LAST has none", Check.of("d" + d + ";r2 0 0;").lucky(Check.LASTS[d], 0), 1);
         }
 
         s.about(HERE, "numbers 0 to LAST, 10 to the D, less 1");
         for (int d = 2; d <= 4; d++) {
             LuckyTickets all = Check.of("d" + d + ";r0 36 0;");
-            check.due("how many there are", all.told(7), LASTS[d] + 1);
+            check.due("how many there are", all.told(7), Check.LASTS[d] + 1);
             check.due("-1", all.lucky(-1, 0), Check.OUTSIDE);
             check.due("0", all.lucky(0, 0), 1);
-            check.due("LAST", all.lucky(LASTS[d], 0), 1);
-            check.due("behind LAST", all.lucky(LASTS[d] + 1, 0), Check.OUTSIDE);
+            check.due("LAST", all.lucky(Check.LASTS[d], 0), 1);
+            check.due("behind LAST", all.lucky(Check.LASTS[d] + 1, 0), Check.OUTSIDE);
         }
 
         s.about(HERE, "first, once)");
@@ -112,8 +111,8 @@ final class BoundsOfText {
         s.about(HERE, "the next TICKET N, 0 .. LAST");
         for (int d = 2; d <= 4; d++) {
             check.due("0", Check.of("d" + d + ";n0 1;").rollOf(0, 0), 0);
-            check.due("LAST", Check.of("d" + d + ";n" + LASTS[d] + " 1;").rollOf(0, 0), LASTS[d]);
-            check.bad("d" + d + ";n" + (LASTS[d] + 1) + " 1;", 2, 4);
+            check.due("LAST", Check.of("d" + d + ";n" + Check.LASTS[d] + " 1;").rollOf(0, 0), Check.LASTS[d]);
+            check.bad("d" + d + ";n" + (Check.LASTS[d] + 1) + " 1;", 2, 4);
         }
 
         s.about(HERE, "C, 0 .. 200, are left");
@@ -285,7 +284,7 @@ final class BoundsOfText {
         check.due("it has room again", y.tram() + y.feed(' '), 1);
     }
 
-    /** Its four letters are d2;x with a fault, its day and its deeds are to be seen in told(). */
+    /** A tram with days, a sale to undo, both images, something SEEN and an entry in its BOOK. */
     private static LuckyTickets used() {
         LuckyTickets x = Check.of("d2;r3 2 0;n0 99;p0;p1;");
         x.seed(7);

@@ -56,7 +56,7 @@ final class BoundsOfTrying {
         check.due("none is more", x.next(95), Check.NONE);
         check.due("none is more", x.next(99), Check.NONE);
         for (int d = 2; d <= 4; d++) {
-            int last = (int) Math.pow(10, d) - 1;
+            int last = Check.LASTS[d];
             check.due("LAST", Check.of("d" + d + ";r2 9 " + d + ";").next(0), last);
             check.due("LAST from LAST", Check.of("d" + d + ";r2 9 " + d + ";").next(last), last);
         }

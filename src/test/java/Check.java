@@ -2,6 +2,9 @@
 final class Check {
     static final int NONE = -1, UNKNOWN = -1000000001, OUTSIDE = -1000000002, NOT = -1000000003, FULL = -1000000004;
 
+    /** LAST, by how many FIGURES there are. */
+    static final int[] LASTS = {0, 0, 99, 999, 9999};
+
     private int wrong;
     private int looked;
     private String part = "";
@@ -78,6 +81,13 @@ final class Check {
         if (riders < 0) {
             throw new IllegalStateException("the text has a fault: " + text);
         }
+        return x;
+    }
+
+    /** It had a TRAM, which an empty text took away. */
+    static LuckyTickets gone() {
+        LuckyTickets x = of("d4;r0 36 0;n0 9;p0;p0;");
+        x.tram();
         return x;
     }
 }
