@@ -4,6 +4,7 @@ import java.lang.reflect.Method;
 import java.lang.reflect.Modifier;
 import java.nio.file.Files;
 import java.nio.file.Path;
+import java.util.ArrayList;
 import java.util.Arrays;
 import java.util.List;
 import java.util.Set;
@@ -11,9 +12,13 @@ import java.util.TreeSet;
 import java.util.regex.Matcher;
 import java.util.regex.Pattern;
 
-/** The public face, and the rules of LANGUAGE.md that can be seen from outside or in the source. */
+/** The public face: as it is listed here, and as the document tells it, in the source's own lines. */
 public final class FaceTest {
     private static final Path SOURCE = Path.of("src/main/java/LuckyTickets.java");
+    private static final Path DOCUMENT = Path.of("../shared/DOC.md");
+    private static final Pattern MEMBER = Pattern.compile("(?m)^ {4}(public .*);$");
+    private static final Pattern PROMISED = Pattern.compile("(?m)^## Promise (\\d+): .*\n\n`(.*?)`: ");
+    private static final Pattern GROUP = Pattern.compile("(?m)^Ahead of the calls (.*) the interface says: (---- .*)\\.$");
     private static final List<String> METHODS = List.of(
         "feed(int)", "tram()", "fault()", "told(int)", "ruleOf(int,int)", "rollOf(int,int)", "rider(int,int)",
         "lucky(int,int)", "sell(int,int)", "line(int,int)", "give(int,int)", "rule(int,int,int,int)", "mode(int)",
@@ -25,9 +30,13 @@ public final class FaceTest {
         Check check = new Check();
         methods(check);
         constants(check);
-        classesInside(check);
-        words(check);
-        roomOfCalls(check);
+        if (Files.isReadable(DOCUMENT)) {
+            String document = Files.readString(DOCUMENT);
+            List<String> source = Files.readAllLines(SOURCE);
+            facesAreOne(check, document, source);
+            promisesAreTheFace(check, document, source);
+            groupsAreKept(check, document, source);
+        }
         check.end();
     }
 
@@ -71,85 +80,55 @@ public final class FaceTest {
         check.due("public fields", shown, 5);
     }
 
-    private static void classesInside(Check check) {
-        check.part("classes inside");
-        for (Class<?> inside : LuckyTickets.class.getDeclaredClasses()) {
-            check.holds(inside + " is static", Modifier.isStatic(inside.getModifiers()));
-            int fields = 0;
-            for (Field f : inside.getDeclaredFields()) {
-                boolean isStatic = Modifier.isStatic(f.getModifiers());
-                fields += isStatic ? 0 : 1;
-                check.holds(f + " is final, if static", !isStatic || Modifier.isFinal(f.getModifiers()));
-            }
-            check.holds(inside + " has twenty fields at most", fields <= 20);
-            for (Method m : inside.getDeclaredMethods()) {
-                check.holds(m + " has no name of the face", METHODS.stream().noneMatch(f -> f.startsWith(m.getName() + "(")));
-                check.holds(m + " takes seven at most", m.getParameterCount() <= 7);
+    /** Each line of the document's face stands in the source, in that order, and no other public one. */
+    private static void facesAreOne(Check check, String document, List<String> source) {
+        check.part("the document's face");
+        List<String> told = new ArrayList<>();
+        Matcher member = MEMBER.matcher(document);
+        while (member.find()) {
+            told.add(member.group(1));
+        }
+        List<String> shown = new ArrayList<>();
+        for (String line : source) {
+            if (line.startsWith("    public ")) {
+                shown.add(line.trim().replaceFirst(" \\{$|;$", ""));
             }
         }
+        check.due("lines of the face", told.size(), METHODS.size() + 2);
+        check.holds("the source's public lines are those of the document: " + shown, shown.equals(told));
     }
 
-    private static void words(Check check) throws Exception {
-        check.part("the source");
-        String source = Files.readString(SOURCE).replaceAll("(?s)/\\*.*?\\*/", "").replaceAll("//[^\n]*", "");
-        String forbidden = "throw|throws|try|catch|finally|synchronized|assert|import|package|protected|volatile|"
-            + "hashCode|toString|Exception|Error|Thread|Object|Exact";
-        Matcher word = Pattern.compile("\\b(" + forbidden + ")\\b|->|::|Exact\\(").matcher(source);
-        check.holds("the source has no forbidden word", !word.find());
-        Matcher inner = Pattern.compile("(?m)^ +(.*\\b(class|interface|enum|record)\\b.*)$").matcher(source);
-        int classes = 1;
-        while (inner.find()) {
-            classes++;
-            check.holds(inner.group(1) + " is static", inner.group(1).contains("static"));
+    private static void promisesAreTheFace(Check check, String document, List<String> source) {
+        check.part("the promises");
+        int count = 0;
+        Matcher promised = PROMISED.matcher(document);
+        while (promised.find()) {
+            count++;
+            check.due("the number of the promise", Integer.parseInt(promised.group(1)), count);
+            String line = "    public " + promised.group(2) + " {";
+            check.holds("it is in the source: " + line, source.contains(line));
         }
-        check.holds("there are twelve classes at most: " + classes, classes <= 12);
+        check.due("promises", count, METHODS.size() + 1);
     }
 
-    /** Once an object is made, its calls make nothing: then no run of calls outgrows its room. */
-    private static void roomOfCalls(Check check) {
-        check.part("room");
-        var bean = (com.sun.management.ThreadMXBean) java.lang.management.ManagementFactory.getThreadMXBean();
-        long thread = Thread.currentThread().getId();
-        LuckyTickets warm = Check.of("d4;r0 0 0;r2 7 1;n9990 200;p0;p3;");
-        everyCall(warm);
-        LuckyTickets x = Check.of("d4;r0 0 0;r2 7 1;n9990 200;p0;p3;");
-        long before = bean.getThreadAllocatedBytes(thread);
-        for (int i = 0; i < 20; i++) {
-            everyCall(x);
+    /** Behind the line that the document wants ahead of them come those calls, one behind the other. */
+    private static void groupsAreKept(Check check, String document, List<String> source) {
+        check.part("the groups of calls");
+        int calls = 0;
+        Matcher group = GROUP.matcher(document);
+        while (group.find()) {
+            List<String> told = List.of(group.group(1).replace("`", "").split(", "));
+            calls += told.size();
+            int from = source.indexOf("    // " + group.group(2));
+            check.holds("the source has " + group.group(2), from >= 0);
+            List<String> shown = new ArrayList<>();
+            for (int i = from + 1; i < source.size() && !source.get(i).startsWith("    // ----"); i++) {
+                if (source.get(i).startsWith("    public int ")) {
+                    shown.add(source.get(i).replaceFirst(" +public int ", "").replaceFirst("\\(.*", ""));
+                }
+            }
+            check.holds("behind " + group.group(2) + " come " + told + ": " + shown, shown.equals(told));
         }
-        long made = bean.getThreadAllocatedBytes(thread) - before;
-        check.holds("twenty rounds of every call make next to nothing: " + made, made < 4096);
-    }
-
-    private static void everyCall(LuckyTickets x) {
-        x.sell(0, 0);
-        x.line(0, 9);
-        x.give(0, 1);
-        x.rule(0, 3, 7, 2);
-        x.mode(1);
-        x.roll(0, 9990, 100);
-        x.drift(10);
-        x.next(0);
-        x.upTo(0, 9999);
-        x.kth(50);
-        x.waits(0);
-        x.dry(60, 99);
-        x.see(12, true);
-        x.could(0, 0);
-        x.write(12, true);
-        x.judge();
-        for (int what = 0; what < 15; what++) {
-            x.told(what);
-        }
-        for (int what = 0; what < 6; what++) {
-            x.rollOf(0, what);
-            x.ruleOf(0, what);
-        }
-        x.tear();
-        x.undo();
-        x.keep(0);
-        x.goBack(0);
-        x.feed('d');
-        x.tram();
+        check.due("calls in groups", calls, METHODS.size());
     }
 }
